@@ -131,6 +131,16 @@ public final class BalanceTest {
         TrackChamber z = four();
         z.vertex(0, 0, 0, 8);
         Check.due("came, STATE ahead of NOT", z.came(0), -5);
+        // Away from (0, 0): around (7, 3) by 2, TURN 1, at (5, 3) with PUSH (0, -6); VERTEX 0 above it, 2 below.
+        TrackChamber w = new TrackChamber();
+        w.track(5, 3, 7, 1, 9, 3);
+        w.track(5, -20, 5, 0, 5, 20);
+        w.track(2, 3, 3, 3, 9, 3);
+        w.vertex(5, 9, -1, 2);
+        w.vertex(5, 3, -1, 1);
+        w.vertex(5, -9, -1, 2);
+        w.vertex(2, 3, -1, 4);
+        Check.due("came, away from 0, 0", w.came(1), 1);
     }
 
     private static void spoils() {
@@ -161,5 +171,7 @@ public final class BalanceTest {
         y.track(0, 0, 4, 0, 4, 4);
         y.vertex(0, 0, -1, 7);
         Check.due("spoils, none IN", y.spoils(0), 2);
+        y.vertex(0, 0, -1, 1);
+        Check.due("spoils, TRACK 0", y.spoils(1), 0);
     }
 }

@@ -102,11 +102,14 @@ public final class CurvesTest {
         Check.due("meets, one line behind", x.meets(5, 3, 41), -2);
         Check.due("meets, circle and line", x.meets(0, 4, -1), 2);
         Check.due("meets, circle and line, 1", x.meets(4, 0, 1), 25020);
+        x.track(20, -20, 20, 3, 20, 20);
+        x.track(-20, 20, 0, 20, 20, 20);
+        Check.due("meets in the grid's corner", x.meets(6, 7, 0), 40040);
         Check.due("meets itself", x.meets(2, 2, -1), -1);
         Check.due("meets k -2", x.meets(0, 1, -2), -1);
         Check.due("meets one -1", x.meets(-1, 1, 0), -1);
-        Check.due("meets one 6", x.meets(6, 1, 0), -1);
-        Check.due("meets other 6", x.meets(1, 6, 0), -1);
+        Check.due("meets one 8", x.meets(8, 1, 0), -1);
+        Check.due("meets other 8", x.meets(1, 8, 0), -1);
         Check.due("meets other -1", x.meets(1, -1, 0), -1);
     }
 
@@ -168,5 +171,9 @@ public final class CurvesTest {
         TrackChamber y = new TrackChamber();
         y.track(3, -20, 3, 0, 3, 20);
         Check.due("through an upright line: least y", y.through(), 10000 + 100 * 23);
+        TrackChamber z = new TrackChamber();
+        z.track(20, -20, 20, 3, 20, 20);
+        z.track(-20, 20, 0, 20, 20, 20);
+        Check.due("through the grid's last POINT", z.through(), 20000 + 100 * 40 + 40);
     }
 }

@@ -183,5 +183,21 @@ public final class EnergiesTest {
         x.kind(2, 0);
         x.vertex(0, 0, 1, 4);
         Check.due("evens, all alike", x.evens(2), 1);
+        // e IN with (0, 10 f) against b with (0, 2 f): 10 - 14 by 1, 20 - 14 by 2.
+        TrackChamber y = new TrackChamber();
+        y.track(0, 0, 10, 10, 20, 0);
+        y.track(0, 0, 2, 2, 4, 0);
+        y.track(0, 0, 7, 7, 14, 0);
+        y.vertex(0, 0, 0, 2);
+        y.kind(0, 2);
+        y.kind(1, 5);
+        Check.due("evens 1 of -4, 6", y.evens(0), 1);
+        // With (0, 7 f) IN: 7 - 14 by 1, 14 - 14 by 2.
+        y.vertex(0, 0, 2, 2);
+        y.kind(2, 2);
+        Check.due("evens 2", y.evens(1), 2);
+        // e against m: 40 - 49 by 4, 50 - 50 by 5.
+        y.kind(1, 8);
+        Check.due("evens 5", y.evens(0), 5);
     }
 }

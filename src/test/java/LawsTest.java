@@ -247,6 +247,12 @@ public final class LawsTest {
         x.kind(3, E);
         Check.due("rest, LIGHT", x.rest(1), 8);
         Check.due("rest, LOOSE", x.rest(2), 11);
+        TrackChamber y = eight();
+        y.kind(4, S);
+        y.kind(3, B);
+        y.vertex(0, 0, 4, 8);
+        Check.due("rest, without a LOST one", y.rest(0), 0);
+        Check.due("names, with a LOST one", y.names(0, 0, 1, -1), 1);
         Check.due("rest(3)", x.rest(3), -1);
         Check.due("rest(-1)", x.rest(-1), -1);
     }

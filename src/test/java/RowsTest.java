@@ -7,6 +7,7 @@ public final class RowsTest {
         into();
         judge();
         undo();
+        undoBringsAll();
         imageAndBack();
         Check.end();
     }
@@ -188,6 +189,46 @@ public final class RowsTest {
         x.undo();
         Check.due("undo leaves LISTS", x.get(0, 1), 9);
         Check.due("undo leaves THE TAPE", x.count(5), 2);
+    }
+
+    /** All of a VERTEX and of a TRACK comes again, also where another has stood in its place since. */
+    private static void undoBringsAll() {
+        TrackChamber x = new TrackChamber();
+        x.track(0, 0, 2, -2, 4, 0);
+        x.track(0, 0, 2, 2, 4, 0);
+        x.vertex(4, 0, 1, 1);
+        x.image();
+        for (int way = 0; way < 2; way++) {
+            x.drop();
+            x.wipe();
+            x.track(9, 9, 8, 8, 2, -2);
+            x.kind(0, 0);
+            x.vertex(2, -2, -1, 3);
+            for (int i = 0; way == 0 && i < 5; i++) {
+                x.undo();
+            }
+            if (way == 1) {
+                x.back();
+            }
+            int[] vertex = {24, 20, 1, 1};
+            int[] track = {0, 0, 2, 2, 4, 0, 0, 12};
+            for (int what = 0; what < 4; what++) {
+                Check.due("way " + way + ": vertexOf(0, " + what + ")", x.vertexOf(0, what), vertex[what]);
+            }
+            for (int what = 0; what < 8; what++) {
+                Check.due("way " + way + ": trackOf(1, " + what + ")", x.trackOf(1, what), track[what]);
+            }
+            Check.due("way " + way + ": KIND of 0", x.trackOf(0, 7), 12);
+        }
+        TrackChamber y = new TrackChamber();
+        y.track(0, 0, 2, -2, 4, 0);
+        for (int i = 0; i < 12; i++) {
+            y.field(i % 9 + 1);
+        }
+        y.kind(0, 7);
+        y.undo();
+        Check.due("undo kind, behind many: KIND", y.trackOf(0, 7), 12);
+        Check.due("undo kind, behind many: FIELD", y.count(0), 3);
     }
 
     private static void imageAndBack() {
