@@ -20,10 +20,10 @@ final class Calls {
         "fits 4 4", "through", "lost 1 0 0", "even 2", "came 0", "spoils 1", "holds 0 0 1 -1", "names 1 2 1 0",
         "calls 1 2 1", "rest 1", "energy 2 8 8 4", "heat 2 1", "evens 2", "feed 59", "reads", "prints 2", "paper 3",
         "list 2 7", "set 0 3 8", "get 0 23", "into 1 0 2", "judge 1 0 2", "undo", "image", "back"};
-    private static final int[] NUMBERS = {-257, -256, -101, -42, -22, -21, -20, -19, -14, -13, -9, -5, -4, -3, -2, -1,
-        0, 1, 2, 3, 4, 5, 6, 7, 8, 9, 10, 11, 12, 13, 15, 16, 20, 21, 22, 23, 24, 25, 26, 31, 32, 33, 41, 63, 64, 119, 120,
-        121, 126, 127, 128, 129, 255, 256, 257, 1681, 65535, 65536, 65537, 1 << 24, 1 << 30, Integer.MIN_VALUE,
-        Integer.MIN_VALUE + 1, Integer.MIN_VALUE + 20, Integer.MAX_VALUE, Integer.MAX_VALUE - 1,
+    private static final int[] NUMBERS = {-257, -256, -101, -42, -22, -21, -20, -19, -14, -13, -9, -5, -4, -3, -2,
+        -1, 0, 1, 2, 3, 4, 5, 6, 7, 8, 9, 10, 11, 12, 13, 15, 16, 20, 21, 22, 23, 24, 25, 26, 31, 32, 33, 41, 63,
+        64, 119, 120, 121, 126, 127, 128, 129, 255, 256, 257, 1681, 65535, 65536, 65537, 1 << 24, 1 << 30,
+        Integer.MIN_VALUE, Integer.MIN_VALUE + 1, Integer.MIN_VALUE + 20, Integer.MAX_VALUE, Integer.MAX_VALUE - 1,
         Integer.MAX_VALUE - 24};
 
     private static final Map<String, Method> OF_PROGRAM = calls(TrackChamber.class), OF_PLAIN = calls(Plain.class);

@@ -723,6 +723,9 @@ final class RowsEdges {
         Check.due("no CHANGES", x.count(4), 0);
         Check.due("undo()", x.undo(), -2);
         Check.due("FIELD", x.count(0), 7);
+        x.field(7);
+        Check.due("reads one that leaves all as it was", Check.read(x, "f7"), 1);
+        Check.due("no CHANGES", x.count(4), 0);
         x.field(8);
         Check.due("a CHANGE behind it", x.undo(), 0);
         Check.due("back to what was read", x.count(0), 7);
@@ -775,6 +778,10 @@ final class RowsEdges {
         x.drop();
         x.wipe();
         Check.due("back() to the later one", x.back() * 10 + x.count(2), 84);
+        x.field(9);
+        x.image();
+        x.undo();
+        Check.due("undo() leaves THE IMAGE", x.back() * 10 + x.count(0), 89);
     }
 
     private static void imageKeeps() {
